@@ -48,16 +48,21 @@ public final class FeelTest {
         x.go(0, 0, 3);
         x.feel(1, 2);
         x.feel(2, 3);
-        x.tick(1);
+        x.tick(0);
+        x.tick(9);
         x.write(0, 0);
+        due.is("swept over ahead of line", x.head(1, 7), 1);
         due.is("line(3, false)", x.line(3, false), 4);
-        int[] told = {3, 4, 0, 0, 7, 0, 0, 0, 0, 0, 0, 0, 0, 1000, 0, -1, 5};
+        int[] told = {3, 4, 0, 0, 7, 0, 0, 0, 0, 0, 0, 0, 0, 1000, 0, -1, 6};
         for (int what = 0; what < told.length; what++) due.is("line told(" + what + ")", x.told(what), told[what]);
         for (int h = 0; h < 4; h++) {
             int[] head = {0, 4, 10000, 0, 0, 0, 0, 0};
             for (int what = 0; what < head.length; what++) due.is("line head(" + h + ", " + what + ")", x.head(h, what), head[what]);
         }
-        for (int s = 0; s < 3; s++) due.is("line section(" + s + ", 2)", x.section(s, 2), 0);
+        for (int s = 0; s < 3; s++) {
+            int[] section = {0, 1000, 0, 0, 0, 4, 3 - s};
+            for (int what = 0; what < section.length; what++) due.is("line section(" + s + ", " + what + ")", x.section(s, what), section[what]);
+        }
     }
 
     private static void allTheWayRight() {

@@ -16,6 +16,7 @@ public final class TickTest {
         headsRiseWhileHealing();
         notSweptOverAnyMore();
         ringOfTwo();
+        ringHealsOverHeadZero();
         wouldChangesNothing();
         due.end();
     }
@@ -312,6 +313,28 @@ public final class TickTest {
         x.tick(0);
         sums("round", x, 0, 0);
         calls("round", x, 0, 2);
+    }
+
+    /** Head 0 of a ring joins the last section and the first. */
+    private static void ringHealsOverHeadZero() {
+        AxleKeeper x = new AxleKeeper();
+        x.line(3, true);
+        int[] right = {2, 3, 1, 0};
+        x.feel(0, 3);
+        x.tick(0);
+        x.repair(0);
+        x.tick(0);
+        calls("head 0 was faulty", x, 2, 0, 2);
+        for (int v : right) x.feel(2, v);
+        x.tick(0);
+        sums("one came into 2", x, 0, -1, 1);
+        calls("one came into 2", x, 2, 2, 2);
+        due.is("head 0 swept over", x.head(0, 7), 1);
+        for (int v : right) x.feel(1, v);
+        due.is("healed", x.tick(0), 5);
+        sums("healed", x, 0, 0, 0);
+        calls("healed", x, 0, 2, 0);
+        due.is("head 0 not any more", x.head(0, 7), 0);
     }
 
     private static void wouldChangesNothing() {
