@@ -292,6 +292,7 @@ public final class TickTest {
         x.tick(0);
         due.is("swept over", x.head(1, 7), 1);
         x.reset(0);
+        due.is("till the next tick", x.head(1, 7), 1);
         x.tick(0);
         due.is("none disturbed", x.head(1, 7), 0);
         due.is("ends are never swept over", x.head(0, 7) + x.head(2, 7), 0);
