@@ -145,6 +145,14 @@ public final class BoundsAskedTest {
         due.is("both", ring.told(11), 3);
         due.is("head 0", ring.head(0, 9), 11);
         due.is("head 1", ring.head(1, 9), 9);
+        // the last section of a ring below 0: no HEAD N is at its right, but HEAD 0
+        for (int n = 2; n <= 6; n++) {
+            AxleKeeper last = Look.ring(n);
+            Look.feltRight(last, 0);
+            last.tick(0);
+            due.is("ring of " + n + ": suspects", last.told(11), n == 2 ? 3 : 1);
+            due.is("ring of " + n + ": head 0", last.head(0, 9), 9);
+        }
     }
 
     /** A tie of one above 0 and one below cannot be: what mends the SUM below 0 in the one direction worsens it in the other. */
